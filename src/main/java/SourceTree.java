@@ -16,8 +16,8 @@ public final class SourceTree {
 
     // Every turn of a loop over tokens takes one at least, and the text's end is one more.
     private static final int MOST_TOKENS = MOST_CHARACTERS + 1;
-    // Above three cells for each of the most tokens or nodes.
-    private static final int MOST_CELLS = 65536;
+    // Above what any row holds: the text, the letters of all words and names.
+    private static final int MOST_CELLS = 32768;
     private static final int FEW_CELLS = 64;
     private static final int CHAINS = 512;
 
@@ -128,13 +128,14 @@ public final class SourceTree {
     public int read() {
         tree.clear();
         scanner.scan();
-        int fault = grammar.parse();
-        faultPlace = grammar.whereFault();
-        if (fault != 0) {
+        try {
+            grammar.wholeFile();
+        } catch (IllegalStateException faultWasRaised) {
             tree.clear();
             spellings.reset();
         }
-        return fault;
+        faultPlace = grammar.faultPlace;
+        return grammar.fault;
     }
 
     public int place() {
@@ -234,30 +235,46 @@ public final class SourceTree {
         }
     }
 
-    /** Tokens or nodes, three numbers each. */
+    /** Tokens or nodes, three numbers each, in a row that grows as an IntRow does. */
     private static final class Table {
-        private final IntRow cells;
+        private int[] cells;
+        private int size;
 
         Table() {
-            cells = new IntRow(FEW_CELLS);
+            cells = new int[COLUMNS * FEW_CELLS];
+            size = 0;
         }
 
         int size() {
-            return cells.size() / COLUMNS;
+            return size;
         }
 
         int at(int i, int column) {
-            return i < 0 || i >= MOST_CELLS ? NONE : cells.at(i * COLUMNS + column);
+            if (i < 0 || i >= size || column < 0 || column >= COLUMNS) {
+                return NONE;
+            }
+            int cell = i * COLUMNS + column;
+            return cell < 0 || cell >= cells.length ? NONE : cells[cell];
         }
 
         void add(int first, int second, int third) {
-            cells.add(first);
-            cells.add(second);
-            cells.add(third);
+            if (size < 0 || size >= MOST_TOKENS) {
+                return;
+            }
+            int cell = size * COLUMNS;
+            if (cell + COLUMNS > cells.length) {
+                cells = Arrays.copyOf(cells, cells.length * 2);
+            }
+            if (cell >= 0 && cell + COLUMNS <= cells.length) {
+                cells[cell] = first;
+                cells[cell + 1] = second;
+                cells[cell + 2] = third;
+                size++;
+            }
         }
 
         void clear() {
-            cells.cutTo(0);
+            size = 0;
         }
     }
 
@@ -517,75 +534,70 @@ public final class SourceTree {
      * the one before it was taken, so that its own faults come before those of nodes told then.
      */
     private abstract static class Cursor {
+        // Of the next token.
+        int kind;
+        int value;
+        int place;
+
+        int fault;
+        int faultPlace;
+
         private final Table tokens;
         private final Table tree;
         private int next;
         private int open;
-        private int fault;
-        private int faultPlace;
 
         Cursor(Table tokens, Table tree) {
             this.tokens = tokens;
             this.tree = tree;
-            next = 0;
-            open = 0;
+            kind = NONE;
+            value = 0;
+            place = 0;
             fault = 0;
             faultPlace = NONE;
+            next = 0;
+            open = 0;
         }
 
         final void begin() {
-            open = 0;
             fault = 0;
             faultPlace = NONE;
-            moveTo(0);
-        }
-
-        final int whichFault() {
-            return fault;
-        }
-
-        final int whereFault() {
-            return faultPlace;
-        }
-
-        final int kind() {
-            return tokens.at(next, KIND);
-        }
-
-        final int value() {
-            return tokens.at(next, VALUE);
-        }
-
-        final int begins() {
-            return tokens.at(next, PLACE);
-        }
-
-        final boolean at(int kind) {
-            return kind() == kind;
+            next = NONE;
+            open = 0;
+            take();
         }
 
         final void take() {
-            moveTo(next + 1);
+            next++;
+            kind = tokens.at(next, KIND);
+            value = tokens.at(next, VALUE);
+            place = tokens.at(next, PLACE);
+            if (kind == FAULT) {
+                raise(value);
+            }
         }
 
-        final boolean accept(int kind) {
-            if (kind() != kind) {
+        final boolean accept(int due) {
+            if (kind != due) {
                 return false;
             }
             take();
             return true;
         }
 
-        final void expect(int kind) {
-            if (kind() != kind) {
+        final void expect(int due) {
+            if (kind != due) {
                 raise(NOT_HERE);
             }
             take();
         }
 
         final int takeName() {
-            int number = value();
-            expect(NAME);
+            if (kind != NAME) {
+                raise(NOT_HERE);
+            }
+            int number = value;
+            take();
             return number;
         }
 
@@ -601,15 +613,19 @@ public final class SourceTree {
             open--;
         }
 
-        final int told() {
-            return tree.size();
-        }
-
-        final void tell(int kind, int value, int children) {
+        final void tell(int nodeKind, int nodeValue, int children) {
             if (tree.size() >= MOST_NODES) {
                 raise(TOO_MANY);
             }
-            tree.add(kind, value, children);
+            tree.add(nodeKind, nodeValue, children);
+        }
+
+        final void tellNothing() {
+            tell(NOTHING_NODE, 0, 0);
+        }
+
+        final int told() {
+            return tree.size();
         }
 
         final void tellAgain(int from, int to) {
@@ -618,30 +634,34 @@ public final class SourceTree {
             }
         }
 
-        final void tellNothing() {
-            tell(NOTHING_NODE, 0, 0);
-        }
-
-        final void tellName() {
-            tell(NAME_NODE, takeName(), 0);
-        }
-
         final void raise(int which) {
             fault = which;
-            faultPlace = begins();
+            faultPlace = place;
             throw new IllegalStateException("a fault of the source");
-        }
-
-        private void moveTo(int token) {
-            next = token;
-            if (kind() == FAULT) {
-                raise(value());
-            }
         }
     }
 
-    /** The rules expr, primary and target. */
-    private abstract static class Expressions extends Cursor {
+    /** The rules of the grammar, a method each, from the file down to what stands in expressions. */
+    private static final class Grammar extends Cursor {
+        private static final int UNIT_OR_BODY = 0;
+        private static final int GENERIC_RULE = 1;
+        private static final int PORT_RULE = 2;
+        private static final int BODY_DECLARATION = 3;
+        private static final int PROCESS_DECLARATION = 4;
+        private static final int CONCURRENT = 5;
+        private static final int MAP_RULE = 6;
+        private static final int STATEMENT = 7;
+        private static final int ELEMENT = 8;
+        private static final int TIME = 9;
+        private static final int CHOICE = 10;
+        private static final int NAME_ALONE = 11;
+
+        private static final int SIGNAL_NODE = 50;
+        private static final int CONSTANT_NODE = 51;
+        private static final int VARIABLE_NODE = 52;
+
+        private static final int REJECTING = 2;
+
         private static final int LOGIC = 1;
         private static final int RELATION = 2;
         private static final int SHIFT = 3;
@@ -657,24 +677,626 @@ public final class SourceTree {
         private static final int PLUS_IN_FRONT = 22;
 
         private final IntRow characters;
+        // The names of the one declaration that is being read.
+        private final IntRow declared;
         // Operators whose right side is not yet read, of all expressions that are open.
         private final IntRow pending;
 
-        Expressions(IntRow characters, Table tokens, Table tree) {
+        Grammar(IntRow characters, Table tokens, Table tree) {
             super(tokens, tree);
             this.characters = characters;
+            declared = new IntRow(FEW_CELLS);
             pending = new IntRow(FEW_CELLS);
         }
 
-        final void beginExpressions() {
+        void wholeFile() {
+            // A fault may have left operators of an earlier text.
             pending.cutTo(0);
+            begin();
+            int children = one(UNIT_OR_BODY);
+            for (int k = 0; k < MOST_TOKENS && canBegin(UNIT_OR_BODY); k++) {
+                children += one(UNIT_OR_BODY);
+            }
+            tell(74, 0, children);
+            if (kind != END_OF_TEXT) {
+                raise(NOT_HERE);
+            }
+        }
+
+        /** Reads one of what the rule tells; answers how many nodes stand for it. */
+        private int one(int rule) {
+            switch (rule) {
+                case UNIT_OR_BODY:
+                    unitOrBody();
+                    return 1;
+                case GENERIC_RULE:
+                    return generic();
+                case PORT_RULE:
+                    return port();
+                case BODY_DECLARATION:
+                case PROCESS_DECLARATION:
+                    return declaration();
+                case CONCURRENT:
+                    concurrent();
+                    return 1;
+                case MAP_RULE:
+                    map();
+                    return 1;
+                case STATEMENT:
+                    statement();
+                    return 1;
+                case ELEMENT:
+                    element();
+                    return 1;
+                case TIME:
+                    time();
+                    return 1;
+                case CHOICE:
+                    choice();
+                    return 1;
+                default:
+                    tell(NAME_NODE, takeName(), 0);
+                    return 1;
+            }
+        }
+
+        /** Of the rules that may come any number of times. */
+        private boolean canBegin(int rule) {
+            switch (rule) {
+                case UNIT_OR_BODY:
+                    return kind == UNIT || kind == BODY;
+                case BODY_DECLARATION:
+                    return kind == SIGNAL || kind == CONSTANT || kind == TYPE || kind == SUBTYPE;
+                case PROCESS_DECLARATION:
+                    return kind == CONSTANT || kind == VARIABLE;
+                case CONCURRENT:
+                    return kind == NAME || kind == PROCESS;
+                default:
+                    return kind == NAME || kind == IF || kind == CASE || kind == FOR || kind == WHILE
+                        || kind == LOOP || kind == EXIT || kind == NEXT || kind == WAIT || kind == NULL
+                        || kind == REPORT || kind == ASSERT;
+            }
+        }
+
+        private void listOfAny(int rule) {
+            int children = 0;
+            for (int k = 0; k < MOST_TOKENS && canBegin(rule); k++) {
+                children += one(rule);
+            }
+            tell(LIST_NODE, 0, children);
+        }
+
+        private int oneOrMore(int rule, int mark) {
+            int children = one(rule);
+            for (int k = 0; k < MOST_TOKENS && accept(mark); k++) {
+                children += one(rule);
+            }
+            return children;
+        }
+
+        private void listOfSome(int rule, int mark) {
+            tell(LIST_NODE, 0, oneOrMore(rule, mark));
+        }
+
+        private void emptyList() {
+            tell(LIST_NODE, 0, 0);
+        }
+
+        private void unitOrBody() {
+            if (kind == BODY) {
+                body();
+            } else {
+                unit();
+            }
+        }
+
+        private void unit() {
+            expect(UNIT);
+            int n = takeName();
+            expect(IS);
+            interfaceList(GENERIC, GENERIC_RULE);
+            interfaceList(PORT, PORT_RULE);
+            expect(END);
+            accept(UNIT);
+            nameBehindEnd(n);
+            expect(';');
+            tell(70, n, 2);
+        }
+
+        private void interfaceList(int word, int rule) {
+            if (accept(word)) {
+                expect('(');
+                listOfSome(rule, ';');
+                expect(')');
+                expect(';');
+            } else {
+                emptyList();
+            }
+        }
+
+        private int generic() {
+            declaredNames();
+            int from = told();
+            type();
+            expressionBehind(BECOMES);
+            return tellDeclared(71, 2, from);
+        }
+
+        private int port() {
+            declaredNames();
+            int from = told();
+            int direction = kind == IN ? 0 : kind == OUT ? 1 : kind == INOUT ? 2 : NONE;
+            if (direction == NONE) {
+                raise(NOT_HERE);
+            }
+            take();
+            tell(NUMBER_NODE, direction, 0);
+            type();
+            expressionBehind(BECOMES);
+            return tellDeclared(72, 3, from);
+        }
+
+        private void declaredNames() {
+            declared.cutTo(0);
+            declared.add(takeName());
+            for (int k = 0; k < MOST_TOKENS && accept(','); k++) {
+                declared.add(takeName());
+            }
+            expect(':');
+        }
+
+        /** The first name's node behind its children, then for each further name all of it again. */
+        private int tellDeclared(int nodeKind, int children, int from) {
+            int to = told();
+            tell(nodeKind, declared.at(0), children);
+            for (int k = 1; k < declared.size(); k++) {
+                tellAgain(from, to);
+                tell(nodeKind, declared.at(k), children);
+            }
+            return declared.size();
+        }
+
+        private void expressionBehind(int mark) {
+            if (accept(mark)) {
+                expression();
+            } else {
+                tellNothing();
+            }
+        }
+
+        private void type() {
+            int n = takeName();
+            if (n == ROW_NAME) {
+                expect('(');
+                expression();
+                boolean down = takeDirection();
+                expression();
+                expect(')');
+                tell(down ? 13 : 12, ROW_NAME, 2);
+            } else if (n == INTEGER_NAME && accept(RANGE)) {
+                expression();
+                expect(TO);
+                expression();
+                tell(11, INTEGER_NAME, 2);
+            } else {
+                tell(10, n, 0);
+            }
+        }
+
+        /** Whether it is DOWNTO. */
+        private boolean takeDirection() {
+            if (accept(DOWNTO)) {
+                return true;
+            }
+            expect(TO);
+            return false;
+        }
+
+        private void body() {
+            expect(BODY);
+            int n = takeName();
+            expect(OF);
+            tell(NAME_NODE, takeName(), 0);
+            expect(IS);
+            listOfAny(BODY_DECLARATION);
+            expect(BEGIN);
+            listOfAny(CONCURRENT);
+            expect(END);
+            accept(BODY);
+            nameBehindEnd(n);
+            expect(';');
+            tell(73, n, 3);
+        }
+
+        private void nameBehindEnd(int n) {
+            if (kind == NAME) {
+                if (value != n) {
+                    raise(OTHER_NAME);
+                }
+                take();
+            }
+        }
+
+        private int declaration() {
+            switch (kind) {
+                case SIGNAL:
+                    return objects(SIGNAL_NODE);
+                case CONSTANT:
+                    return objects(CONSTANT_NODE);
+                case VARIABLE:
+                    return objects(VARIABLE_NODE);
+                case TYPE:
+                    typeDeclaration();
+                    return 1;
+                default:
+                    subtypeDeclaration();
+                    return 1;
+            }
+        }
+
+        private int objects(int nodeKind) {
+            take();
+            declaredNames();
+            int from = told();
+            type();
+            if (nodeKind == CONSTANT_NODE) {
+                expect(BECOMES);
+                expression();
+            } else {
+                expressionBehind(BECOMES);
+            }
+            expect(';');
+            return tellDeclared(nodeKind, 2, from);
+        }
+
+        private void typeDeclaration() {
+            expect(TYPE);
+            int n = takeName();
+            expect(IS);
+            expect('(');
+            int children = oneOrMore(NAME_ALONE, ',');
+            expect(')');
+            expect(';');
+            tell(53, n, children);
+        }
+
+        private void subtypeDeclaration() {
+            expect(SUBTYPE);
+            int n = takeName();
+            expect(IS);
+            type();
+            expect(';');
+            tell(54, n, 1);
+        }
+
+        private void concurrent() {
+            if (kind == PROCESS) {
+                process(NONE);
+                return;
+            }
+            int n = takeName();
+            if (!accept(':')) {
+                concurrentAssignment(n);
+                return;
+            }
+            switch (kind) {
+                case PROCESS:
+                    process(n);
+                    break;
+                case UNIT:
+                    instance(n);
+                    break;
+                case FOR:
+                case IF:
+                    generate(n);
+                    break;
+                default:
+                    concurrentAssignment(takeName());
+                    break;
+            }
+        }
+
+        private void concurrentAssignment(int n) {
+            behindName(n, false);
+            expect(AT_MOST);
+            // NOTHING has no token, so it comes before the word of a mode without a time.
+            if (kind != REJECT) {
+                tellNothing();
+            }
+            int mode = mode();
+            listOfSome(ELEMENT, ',');
+            int children = 3;
+            for (int k = 0; k < MOST_TOKENS && accept(WHEN); k++) {
+                expression();
+                expect(ELSE);
+                listOfSome(ELEMENT, ',');
+                children += 2;
+            }
+            expect(';');
+            tell(61, mode, children);
+        }
+
+        private int mode() {
+            if (accept(REJECT)) {
+                one(TIME);
+                expect(INERTIAL);
+                return REJECTING;
+            }
+            if (accept(TRANSPORT)) {
+                return 1;
+            }
+            accept(INERTIAL);
+            return 0;
+        }
+
+        private void element() {
+            expression();
+            timeBehind(AFTER);
+            tell(31, 0, 2);
+        }
+
+        private void timeBehind(int word) {
+            if (accept(word)) {
+                one(TIME);
+            } else {
+                tellNothing();
+            }
+        }
+
+        private void time() {
+            primary();
+            if (kind != NAME || value < PS_NAME || value > US_NAME) {
+                raise(NOT_HERE);
+            }
+            tell(32, takeName(), 1);
+        }
+
+        private void instance(int n) {
+            expect(UNIT);
+            tell(NAME_NODE, takeName(), 0);
+            mapList(GENERIC);
+            mapList(PORT);
+            expect(';');
+            tell(62, n, 3);
+        }
+
+        private void mapList(int word) {
+            if (accept(word)) {
+                expect(MAP);
+                expect('(');
+                listOfSome(MAP_RULE, ',');
+                expect(')');
+            } else {
+                emptyList();
+            }
+        }
+
+        private void map() {
+            int m = takeName();
+            expect(ARROW);
+            if (kind == OPEN) {
+                // NOTHING has no token, so it comes before the word that asks for it.
+                tellNothing();
+                take();
+            } else {
+                expression();
+            }
+            tell(63, m, 1);
+        }
+
+        private void generate(int n) {
+            enter();
+            boolean counted = accept(FOR);
+            if (counted) {
+                tell(NAME_NODE, takeName(), 0);
+                expect(IN);
+                expression();
+                expect(TO);
+                expression();
+            } else {
+                expect(IF);
+                expression();
+            }
+            expect(GENERATE);
+            listOfAny(CONCURRENT);
+            expect(END);
+            expect(GENERATE);
+            nameBehindEnd(n);
+            expect(';');
+            leave();
+            tell(counted ? 64 : 65, n, counted ? 4 : 2);
+        }
+
+        private void process(int n) {
+            expect(PROCESS);
+            if (accept('(')) {
+                listOfSome(NAME_ALONE, ',');
+                expect(')');
+            } else {
+                tellNothing();
+            }
+            accept(IS);
+            listOfAny(PROCESS_DECLARATION);
+            expect(BEGIN);
+            listOfAny(STATEMENT);
+            expect(END);
+            expect(PROCESS);
+            if (n != NONE) {
+                nameBehindEnd(n);
+            }
+            expect(';');
+            tell(60, n, 3);
+        }
+
+        private void statement() {
+            switch (kind) {
+                case IF:
+                    ifStatement();
+                    break;
+                case CASE:
+                    caseStatement();
+                    break;
+                case FOR:
+                case WHILE:
+                case LOOP:
+                    loopStatement();
+                    break;
+                case EXIT:
+                    leaveOrRepeat(42);
+                    break;
+                case NEXT:
+                    leaveOrRepeat(43);
+                    break;
+                case WAIT:
+                    waitStatement();
+                    break;
+                case NULL:
+                    take();
+                    expect(';');
+                    tell(45, 0, 0);
+                    break;
+                case REPORT:
+                case ASSERT:
+                    reportStatement();
+                    break;
+                default:
+                    assignment();
+                    break;
+            }
+        }
+
+        private void assignment() {
+            behindName(takeName(), false);
+            if (accept(BECOMES)) {
+                expression();
+                expect(';');
+                tell(33, 0, 2);
+                return;
+            }
+            expect(AT_MOST);
+            int mode = mode();
+            int children = mode == REJECTING ? 2 : 1;
+            children += oneOrMore(ELEMENT, ',');
+            expect(';');
+            tell(30, mode, children);
+        }
+
+        private void ifStatement() {
+            enter();
+            expect(IF);
+            int children = 0;
+            for (int k = 0; k < MOST_TOKENS && (k == 0 || accept(ELSIF)); k++) {
+                expression();
+                expect(THEN);
+                listOfAny(STATEMENT);
+                children += 2;
+            }
+            // The last LIST stands there without an ELSE too, as all lists that may be left out do.
+            if (accept(ELSE)) {
+                listOfAny(STATEMENT);
+            } else {
+                emptyList();
+            }
+            expect(END);
+            expect(IF);
+            expect(';');
+            leave();
+            tell(34, 0, children + 1);
+        }
+
+        private void caseStatement() {
+            enter();
+            expect(CASE);
+            expression();
+            expect(IS);
+            if (kind != WHEN) {
+                raise(NOT_HERE);
+            }
+            int children = 1;
+            for (int k = 0; k < MOST_TOKENS && accept(WHEN); k++) {
+                listOfSome(CHOICE, '|');
+                expect(ARROW);
+                listOfAny(STATEMENT);
+                tell(36, 0, 2);
+                children++;
+            }
+            expect(END);
+            expect(CASE);
+            expect(';');
+            leave();
+            tell(35, 0, children);
+        }
+
+        private void choice() {
+            if (accept(OTHERS)) {
+                tell(37, 0, 0);
+            } else {
+                expression();
+            }
+        }
+
+        private void loopStatement() {
+            enter();
+            int nodeKind = 41;
+            int n = 0;
+            int children = 1;
+            if (accept(FOR)) {
+                n = takeName();
+                expect(IN);
+                expression();
+                nodeKind = takeDirection() ? 39 : 38;
+                expression();
+                children = 3;
+            } else if (accept(WHILE)) {
+                expression();
+                nodeKind = 40;
+                children = 2;
+            }
+            expect(LOOP);
+            listOfAny(STATEMENT);
+            expect(END);
+            expect(LOOP);
+            expect(';');
+            leave();
+            tell(nodeKind, n, children);
+        }
+
+        private void leaveOrRepeat(int nodeKind) {
+            take();
+            expressionBehind(WHEN);
+            expect(';');
+            tell(nodeKind, 0, 1);
+        }
+
+        private void waitStatement() {
+            expect(WAIT);
+            if (accept(ON)) {
+                listOfSome(NAME_ALONE, ',');
+            } else {
+                emptyList();
+            }
+            expressionBehind(UNTIL);
+            timeBehind(FOR);
+            expect(';');
+            tell(44, 0, 3);
+        }
+
+        private void reportStatement() {
+            boolean asserted = accept(ASSERT);
+            if (asserted) {
+                expression();
+            }
+            expect(REPORT);
+            expression();
+            expect(';');
+            tell(asserted ? 47 : 46, 0, asserted ? 2 : 1);
         }
 
         /**
          * All levels of operators in one loop: a method a level would make too many calls stand
          * open at once when forty parentheses are open.
          */
-        final void expression() {
+        private void expression() {
             int floor = pending.size();
             boolean signMayCome = true;
             for (int k = 0; k < MOST_TOKENS; k++) {
@@ -694,9 +1316,9 @@ public final class SourceTree {
             }
         }
 
-        final void primary() {
-            int value = value();
-            switch (kind()) {
+        private void primary() {
+            int first = value;
+            switch (kind) {
                 case '(':
                     enter();
                     take();
@@ -706,23 +1328,22 @@ public final class SourceTree {
                     break;
                 case NUMBER:
                     take();
-                    tell(NUMBER_NODE, value, 0);
+                    tell(NUMBER_NODE, first, 0);
                     break;
                 case SIGN:
                     take();
-                    tell(SIGN_NODE, value, 0);
+                    tell(SIGN_NODE, first, 0);
                     break;
                 case ROW:
                     rowOfSigns();
                     break;
                 case NAME:
                     take();
-                    if (at('\'')) {
-                        take();
-                        tellName();
-                        tell(25, value, 1);
+                    if (accept('\'')) {
+                        tell(NAME_NODE, takeName(), 0);
+                        tell(25, first, 1);
                     } else {
-                        behindName(value, true);
+                        behindName(first, true);
                     }
                     break;
                 default:
@@ -732,17 +1353,17 @@ public final class SourceTree {
         }
 
         /** What is left of a target whose name was taken, or of a primary, which may list several. */
-        final void behindName(int name, boolean several) {
-            if (!at('(')) {
-                tell(NAME_NODE, name, 0);
+        private void behindName(int n, boolean several) {
+            if (kind != '(') {
+                tell(NAME_NODE, n, 0);
                 return;
             }
             enter();
             take();
             expression();
-            int kind = at(TO) ? 23 : at(DOWNTO) ? 24 : 22;
+            int nodeKind = kind == TO ? 23 : kind == DOWNTO ? 24 : 22;
             int children = 1;
-            if (kind != 22) {
+            if (nodeKind != 22) {
                 take();
                 expression();
                 children = 2;
@@ -754,14 +1375,14 @@ public final class SourceTree {
             }
             expect(')');
             leave();
-            tell(kind, name, children);
+            tell(nodeKind, n, children);
         }
 
         private void signInFront() {
-            if (at('-')) {
+            if (kind == '-') {
                 pending.add(MINUS_IN_FRONT);
                 take();
-            } else if (at('+')) {
+            } else if (kind == '+') {
                 pending.add(PLUS_IN_FRONT);
                 take();
             }
@@ -780,8 +1401,8 @@ public final class SourceTree {
         }
 
         private void rowOfSigns() {
-            int from = begins() + 1;
-            int signs = value();
+            int from = place + 1;
+            int signs = value;
             take();
             for (int i = 0; i < signs; i++) {
                 tell(SIGN_NODE, signOf(characters.at(from + i)), 0);
@@ -794,7 +1415,7 @@ public final class SourceTree {
          * of one expression rise in level, so that one of the same level tells what came before.
          */
         private int operatorThatJoins(int floor) {
-            int operator = operatorOf(kind());
+            int operator = operatorOf(kind);
             int level = levelOf(operator);
             for (int k = floor; k < pending.size() && operator != NONE; k++) {
                 int earlier = pending.at(k);
@@ -894,669 +1515,6 @@ public final class SourceTree {
                 default:
                     return NONE;
             }
-        }
-    }
-
-    /** The rules above expressions. */
-    private static final class Grammar extends Expressions {
-        private static final int UNIT_OR_BODY = 0;
-        private static final int GENERIC_RULE = 1;
-        private static final int PORT_RULE = 2;
-        private static final int BODY_DECLARATION = 3;
-        private static final int PROCESS_DECLARATION = 4;
-        private static final int CONCURRENT = 5;
-        private static final int MAP_RULE = 6;
-        private static final int STATEMENT = 7;
-        private static final int ELEMENT = 8;
-        private static final int CHOICE = 9;
-        private static final int NAME_RULE = 10;
-
-        private static final int REJECTING = 2;
-
-        // The names of the one declaration that is being read.
-        private final IntRow declared;
-
-        Grammar(IntRow characters, Table tokens, Table tree) {
-            super(characters, tokens, tree);
-            declared = new IntRow(FEW_CELLS);
-        }
-
-        /** 0 or the fault. */
-        int parse() {
-            try {
-                wholeFile();
-            } catch (IllegalStateException faultRaised) {
-                return whichFault();
-            }
-            return 0;
-        }
-
-        private void wholeFile() {
-            beginExpressions();
-            begin();
-            if (!canBegin(UNIT_OR_BODY)) {
-                raise(NOT_HERE);
-            }
-            int children = anyNumber(UNIT_OR_BODY);
-            tell(74, 0, children);
-            if (!at(END_OF_TEXT)) {
-                raise(NOT_HERE);
-            }
-        }
-
-        /** Reads one of what the rule tells; answers how many nodes stand for it. */
-        private int one(int rule) {
-            switch (rule) {
-                case UNIT_OR_BODY:
-                    if (at(UNIT)) {
-                        unit();
-                    } else {
-                        body();
-                    }
-                    return 1;
-                case GENERIC_RULE:
-                    return generic();
-                case PORT_RULE:
-                    return port();
-                case BODY_DECLARATION:
-                case PROCESS_DECLARATION:
-                    return declaration();
-                case CONCURRENT:
-                    concurrent();
-                    return 1;
-                case MAP_RULE:
-                    map();
-                    return 1;
-                case STATEMENT:
-                    statement();
-                    return 1;
-                case ELEMENT:
-                    element();
-                    return 1;
-                case CHOICE:
-                    choice();
-                    return 1;
-                default:
-                    tellName();
-                    return 1;
-            }
-        }
-
-        private boolean canBegin(int rule) {
-            switch (rule) {
-                case UNIT_OR_BODY:
-                    return at(UNIT) || at(BODY);
-                case BODY_DECLARATION:
-                    return at(SIGNAL) || at(CONSTANT) || at(TYPE) || at(SUBTYPE);
-                case PROCESS_DECLARATION:
-                    return at(CONSTANT) || at(VARIABLE);
-                case CONCURRENT:
-                    return at(NAME) || at(PROCESS);
-                case STATEMENT:
-                    return at(NAME) || at(IF) || at(CASE) || at(FOR) || at(WHILE) || at(LOOP)
-                        || at(EXIT) || at(NEXT) || at(WAIT) || at(NULL) || at(REPORT) || at(ASSERT);
-                default:
-                    return false;
-            }
-        }
-
-        private int anyNumber(int rule) {
-            int children = 0;
-            for (int k = 0; k < MOST_TOKENS && canBegin(rule); k++) {
-                children += one(rule);
-            }
-            return children;
-        }
-
-        private int oneOrMore(int rule, int mark) {
-            int children = one(rule);
-            for (int k = 0; k < MOST_TOKENS && accept(mark); k++) {
-                children += one(rule);
-            }
-            return children;
-        }
-
-        private void listOfAny(int rule) {
-            tell(LIST_NODE, 0, anyNumber(rule));
-        }
-
-        private void listOfSome(int rule, int mark) {
-            tell(LIST_NODE, 0, oneOrMore(rule, mark));
-        }
-
-        private void emptyList() {
-            tell(LIST_NODE, 0, 0);
-        }
-
-        private void unit() {
-            expect(UNIT);
-            int n = takeName();
-            expect(IS);
-            interfaceList(GENERIC, GENERIC_RULE);
-            interfaceList(PORT, PORT_RULE);
-            expect(END);
-            accept(UNIT);
-            nameBehindEnd(n);
-            expect(';');
-            tell(70, n, 2);
-        }
-
-        private void interfaceList(int word, int rule) {
-            if (accept(word)) {
-                expect('(');
-                listOfSome(rule, ';');
-                expect(')');
-                expect(';');
-            } else {
-                emptyList();
-            }
-        }
-
-        private int generic() {
-            declaredNames();
-            int from = told();
-            type();
-            expressionBehind(BECOMES);
-            return tellDeclared(71, 2, from);
-        }
-
-        private int port() {
-            declaredNames();
-            int from = told();
-            int direction = at(IN) ? 0 : at(OUT) ? 1 : at(INOUT) ? 2 : NONE;
-            if (direction == NONE) {
-                raise(NOT_HERE);
-            }
-            take();
-            tell(NUMBER_NODE, direction, 0);
-            type();
-            expressionBehind(BECOMES);
-            return tellDeclared(72, 3, from);
-        }
-
-        private void declaredNames() {
-            declared.cutTo(0);
-            declared.add(takeName());
-            for (int k = 0; k < MOST_TOKENS && accept(','); k++) {
-                declared.add(takeName());
-            }
-            expect(':');
-        }
-
-        /** The first name's node behind its children, then for each further name all of it again. */
-        private int tellDeclared(int kind, int children, int from) {
-            int to = told();
-            tell(kind, declared.at(0), children);
-            for (int k = 1; k < declared.size(); k++) {
-                tellAgain(from, to);
-                tell(kind, declared.at(k), children);
-            }
-            return declared.size();
-        }
-
-        private void expressionBehind(int mark) {
-            if (accept(mark)) {
-                expression();
-            } else {
-                tellNothing();
-            }
-        }
-
-        private void type() {
-            int n = takeName();
-            if (n == ROW_NAME) {
-                expect('(');
-                expression();
-                boolean down = takeDirection();
-                expression();
-                expect(')');
-                tell(down ? 13 : 12, ROW_NAME, 2);
-            } else if (n == INTEGER_NAME && accept(RANGE)) {
-                expression();
-                expect(TO);
-                expression();
-                tell(11, 0, 2);
-            } else {
-                tell(10, n, 0);
-            }
-        }
-
-        /** Whether it is DOWNTO. */
-        private boolean takeDirection() {
-            if (accept(DOWNTO)) {
-                return true;
-            }
-            expect(TO);
-            return false;
-        }
-
-        private void body() {
-            expect(BODY);
-            int n = takeName();
-            expect(OF);
-            tellName();
-            expect(IS);
-            listOfAny(BODY_DECLARATION);
-            expect(BEGIN);
-            listOfAny(CONCURRENT);
-            expect(END);
-            accept(BODY);
-            nameBehindEnd(n);
-            expect(';');
-            tell(73, n, 3);
-        }
-
-        private void nameBehindEnd(int n) {
-            if (at(NAME)) {
-                if (value() != n) {
-                    raise(OTHER_NAME);
-                }
-                take();
-            }
-        }
-
-        private int declaration() {
-            switch (kind()) {
-                case SIGNAL:
-                    return objects(50);
-                case CONSTANT:
-                    return objects(51);
-                case VARIABLE:
-                    return objects(52);
-                case TYPE:
-                    typeDeclaration();
-                    return 1;
-                default:
-                    subtypeDeclaration();
-                    return 1;
-            }
-        }
-
-        private int objects(int kind) {
-            take();
-            declaredNames();
-            int from = told();
-            type();
-            if (kind == 51) {
-                expect(BECOMES);
-                expression();
-            } else {
-                expressionBehind(BECOMES);
-            }
-            expect(';');
-            return tellDeclared(kind, 2, from);
-        }
-
-        private void typeDeclaration() {
-            expect(TYPE);
-            int n = takeName();
-            expect(IS);
-            expect('(');
-            int children = oneOrMore(NAME_RULE, ',');
-            expect(')');
-            expect(';');
-            tell(53, n, children);
-        }
-
-        private void subtypeDeclaration() {
-            expect(SUBTYPE);
-            int n = takeName();
-            expect(IS);
-            type();
-            expect(';');
-            tell(54, n, 1);
-        }
-
-        private void concurrent() {
-            if (at(PROCESS)) {
-                process(NONE);
-                return;
-            }
-            int n = takeName();
-            if (accept(':')) {
-                labelled(n);
-            } else {
-                concurrentAssignment(n);
-            }
-        }
-
-        private void labelled(int n) {
-            switch (kind()) {
-                case PROCESS:
-                    process(n);
-                    break;
-                case NAME:
-                    concurrentAssignment(takeName());
-                    break;
-                case UNIT:
-                    instance(n);
-                    break;
-                case FOR:
-                    forGenerate(n);
-                    break;
-                case IF:
-                    ifGenerate(n);
-                    break;
-                default:
-                    raise(NOT_HERE);
-                    break;
-            }
-        }
-
-        private void concurrentAssignment(int n) {
-            behindName(n, false);
-            expect(AT_MOST);
-            // NOTHING has no token, so it comes before the word of a mode without a time.
-            if (!at(REJECT)) {
-                tellNothing();
-            }
-            int mode = mode();
-            listOfSome(ELEMENT, ',');
-            int children = 3;
-            for (int k = 0; k < MOST_TOKENS && accept(WHEN); k++) {
-                expression();
-                expect(ELSE);
-                listOfSome(ELEMENT, ',');
-                children += 2;
-            }
-            expect(';');
-            tell(61, mode, children);
-        }
-
-        private int mode() {
-            if (accept(REJECT)) {
-                time();
-                expect(INERTIAL);
-                return REJECTING;
-            }
-            if (accept(TRANSPORT)) {
-                return 1;
-            }
-            accept(INERTIAL);
-            return 0;
-        }
-
-        private void element() {
-            expression();
-            if (accept(AFTER)) {
-                time();
-            } else {
-                tellNothing();
-            }
-            tell(31, 0, 2);
-        }
-
-        private void time() {
-            primary();
-            if (value() < PS_NAME || value() > US_NAME) {
-                raise(NOT_HERE);
-            }
-            int n = takeName();
-            tell(32, n, 1);
-        }
-
-        private void instance(int n) {
-            expect(UNIT);
-            tellName();
-            mapList(GENERIC);
-            mapList(PORT);
-            expect(';');
-            tell(62, n, 3);
-        }
-
-        private void mapList(int word) {
-            if (accept(word)) {
-                expect(MAP);
-                expect('(');
-                listOfSome(MAP_RULE, ',');
-                expect(')');
-            } else {
-                emptyList();
-            }
-        }
-
-        private void map() {
-            int m = takeName();
-            expect(ARROW);
-            if (at(OPEN)) {
-                // NOTHING has no token, so it comes before the word that asks for it.
-                tellNothing();
-                take();
-            } else {
-                expression();
-            }
-            tell(63, m, 1);
-        }
-
-        private void forGenerate(int n) {
-            enter();
-            expect(FOR);
-            tellName();
-            expect(IN);
-            expression();
-            expect(TO);
-            expression();
-            generated(n);
-            tell(64, n, 4);
-        }
-
-        private void ifGenerate(int n) {
-            enter();
-            expect(IF);
-            expression();
-            generated(n);
-            tell(65, n, 2);
-        }
-
-        private void generated(int n) {
-            expect(GENERATE);
-            listOfAny(CONCURRENT);
-            expect(END);
-            expect(GENERATE);
-            nameBehindEnd(n);
-            expect(';');
-            leave();
-        }
-
-        private void process(int n) {
-            expect(PROCESS);
-            if (accept('(')) {
-                listOfSome(NAME_RULE, ',');
-                expect(')');
-            } else {
-                tellNothing();
-            }
-            accept(IS);
-            listOfAny(PROCESS_DECLARATION);
-            expect(BEGIN);
-            listOfAny(STATEMENT);
-            expect(END);
-            expect(PROCESS);
-            if (n != NONE) {
-                nameBehindEnd(n);
-            }
-            expect(';');
-            tell(60, n, 3);
-        }
-
-        private void statement() {
-            switch (kind()) {
-                case NAME:
-                    assignment();
-                    break;
-                case IF:
-                    ifStatement();
-                    break;
-                case CASE:
-                    caseStatement();
-                    break;
-                case FOR:
-                    forLoop();
-                    break;
-                case WHILE:
-                    whileLoop();
-                    break;
-                case LOOP:
-                    enter();
-                    loop();
-                    tell(41, 0, 1);
-                    break;
-                case EXIT:
-                    leaving(42);
-                    break;
-                case NEXT:
-                    leaving(43);
-                    break;
-                case WAIT:
-                    waiting();
-                    break;
-                case NULL:
-                    take();
-                    expect(';');
-                    tell(45, 0, 0);
-                    break;
-                default:
-                    reporting();
-                    break;
-            }
-        }
-
-        private void assignment() {
-            behindName(takeName(), false);
-            if (accept(BECOMES)) {
-                expression();
-                expect(';');
-                tell(33, 0, 2);
-                return;
-            }
-            expect(AT_MOST);
-            int mode = mode();
-            int children = mode == REJECTING ? 2 : 1;
-            children += oneOrMore(ELEMENT, ',');
-            expect(';');
-            tell(30, mode, children);
-        }
-
-        private void ifStatement() {
-            enter();
-            expect(IF);
-            thenPart();
-            int children = 2;
-            for (int k = 0; k < MOST_TOKENS && accept(ELSIF); k++) {
-                thenPart();
-                children += 2;
-            }
-            if (accept(ELSE)) {
-                listOfAny(STATEMENT);
-            } else {
-                emptyList();
-            }
-            expect(END);
-            expect(IF);
-            expect(';');
-            leave();
-            tell(34, 0, children + 1);
-        }
-
-        private void thenPart() {
-            expression();
-            expect(THEN);
-            listOfAny(STATEMENT);
-        }
-
-        private void caseStatement() {
-            enter();
-            expect(CASE);
-            expression();
-            expect(IS);
-            int children = 1;
-            if (!at(WHEN)) {
-                raise(NOT_HERE);
-            }
-            for (int k = 0; k < MOST_TOKENS && accept(WHEN); k++) {
-                listOfSome(CHOICE, '|');
-                expect(ARROW);
-                listOfAny(STATEMENT);
-                tell(36, 0, 2);
-                children++;
-            }
-            expect(END);
-            expect(CASE);
-            expect(';');
-            leave();
-            tell(35, 0, children);
-        }
-
-        private void choice() {
-            if (accept(OTHERS)) {
-                tell(37, 0, 0);
-            } else {
-                expression();
-            }
-        }
-
-        private void forLoop() {
-            enter();
-            expect(FOR);
-            int n = takeName();
-            expect(IN);
-            expression();
-            boolean down = takeDirection();
-            expression();
-            loop();
-            tell(down ? 39 : 38, n, 3);
-        }
-
-        private void whileLoop() {
-            enter();
-            expect(WHILE);
-            expression();
-            loop();
-            tell(40, 0, 2);
-        }
-
-        private void loop() {
-            expect(LOOP);
-            listOfAny(STATEMENT);
-            expect(END);
-            expect(LOOP);
-            expect(';');
-            leave();
-        }
-
-        private void leaving(int kind) {
-            take();
-            expressionBehind(WHEN);
-            expect(';');
-            tell(kind, 0, 1);
-        }
-
-        private void waiting() {
-            expect(WAIT);
-            if (accept(ON)) {
-                listOfSome(NAME_RULE, ',');
-            } else {
-                emptyList();
-            }
-            expressionBehind(UNTIL);
-            if (accept(FOR)) {
-                time();
-            } else {
-                tellNothing();
-            }
-            expect(';');
-            tell(44, 0, 3);
-        }
-
-        private void reporting() {
-            boolean asserted = accept(ASSERT);
-            if (asserted) {
-                expression();
-            }
-            expect(REPORT);
-            expression();
-            expect(';');
-            tell(asserted ? 47 : 46, 0, asserted ? 2 : 1);
         }
     }
 }
