@@ -129,7 +129,7 @@ public final class SourceTree {
         tree.clear();
         scanner.scan();
         try {
-            grammar.wholeFile();
+            grammar.one(Grammar.WHOLE_FILE);
         } catch (IllegalStateException faultWasRaised) {
             tree.clear();
             spellings.reset();
@@ -655,6 +655,7 @@ public final class SourceTree {
         private static final int TIME = 9;
         private static final int CHOICE = 10;
         private static final int NAME_ALONE = 11;
+        private static final int WHOLE_FILE = 12;
 
         private static final int SIGNAL_NODE = 50;
         private static final int CONSTANT_NODE = 51;
@@ -689,23 +690,12 @@ public final class SourceTree {
             pending = new IntRow(FEW_CELLS);
         }
 
-        void wholeFile() {
-            // A fault may have left operators of an earlier text.
-            pending.cutTo(0);
-            begin();
-            int children = one(UNIT_OR_BODY);
-            for (int k = 0; k < MOST_TOKENS && canBegin(UNIT_OR_BODY); k++) {
-                children += one(UNIT_OR_BODY);
-            }
-            tell(74, 0, children);
-            if (kind != END_OF_TEXT) {
-                raise(NOT_HERE);
-            }
-        }
-
         /** Reads one of what the rule tells; answers how many nodes stand for it. */
         private int one(int rule) {
             switch (rule) {
+                case WHOLE_FILE:
+                    wholeFile();
+                    return 1;
                 case UNIT_OR_BODY:
                     unitOrBody();
                     return 1;
@@ -780,6 +770,20 @@ public final class SourceTree {
 
         private void emptyList() {
             tell(LIST_NODE, 0, 0);
+        }
+
+        private void wholeFile() {
+            // A fault may have left operators of an earlier text.
+            pending.cutTo(0);
+            begin();
+            int children = one(UNIT_OR_BODY);
+            for (int k = 0; k < MOST_TOKENS && canBegin(UNIT_OR_BODY); k++) {
+                children += one(UNIT_OR_BODY);
+            }
+            tell(74, 0, children);
+            if (kind != END_OF_TEXT) {
+                raise(NOT_HERE);
+            }
         }
 
         private void unitOrBody() {

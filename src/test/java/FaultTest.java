@@ -275,6 +275,16 @@ public final class FaultTest {
             nested(n, BODY, "g:@for i in 1 to 2 generate ", "", "end generate;", "end;");
             nested(n, BODY, "g:@if a generate ", "", "end generate g;", "end;");
         }
+        // What is closed is open no longer, also behind many of its kind.
+        String[] statements = {"a(1):=(1);", "a:=b(1,2)+(3)+c(4 to 5);", "if a then end if;", "case a is when 1=>end case;",
+            "for i in 1 to 2 loop end loop;", "while a loop end loop;", "loop end loop;", "wait for(1)ns;"};
+        for (String statement : statements) {
+            Check.same("often " + statement, Check.of(PROCESS + statement.repeat(60) + "end process;end;").read(), 0);
+        }
+        String[] concurrents = {"a(1)<=(1);", "g:if a generate end generate;", "g:for i in 1 to 2 generate end generate g;"};
+        for (String concurrent : concurrents) {
+            Check.same("often " + concurrent, Check.of(BODY + concurrent.repeat(60) + "end;").read(), 0);
+        }
         // Those of all kinds are counted together, and no longer when they are closed.
         String ten = "g:if(a)generate g:for i in(1)to(2)generate ".repeat(5);
         String twenty = "if(a)then case(a)is when(1)=>for i in(1)to(2)loop while(a)loop ".repeat(5);

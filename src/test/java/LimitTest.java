@@ -29,6 +29,20 @@ public final class LimitTest {
         Check.same("name 999", Check.nameOf(x, 999), "n974");
         Check.same("name 25", Check.nameOf(x, 25), "n0");
         Check.same("its node's value", x.node(1 + 974, 1), 999);
+        // Every name is found again, also in a text read before.
+        StringBuilder again = new StringBuilder(namesUpTo(999)).append("body f of f is type t is(n974");
+        for (int n = 973; n >= 0; n--) {
+            again.append(",n").append(n);
+        }
+        x = Check.of(again.append("); begin end;").toString());
+        for (int time = 0; time < 2; time++) {
+            Check.same("every name again", x.read(), 0);
+            Check.same("no name is new", x.names(), 1000);
+            for (int i = 0; i < 975; i++) {
+                Check.same("number of name " + i, x.node(1 + i, 1), 25 + i);
+                Check.same("number of name from last " + i, x.node(981 + i, 1), 999 - i);
+            }
+        }
         String full = namesUpTo(999);
         due(full + "unit n500 is end;", 0, -1);
         due(full + "unit f is end low;", 6, full.length() + 14);

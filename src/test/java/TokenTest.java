@@ -150,6 +150,8 @@ public final class TokenTest {
         fault(1, "unit u is generic(g:logic:=@\"\"); end;");
         fault(1, "unit u is generic(g:logic:=@\"0 1\"); end;");
         fault(1, "unit u is generic(g:logic:=@\"02\"); end;");
+        fault(1, "unit u is generic(g:logic:=@\"20\"); end;");
+        fault(1, "unit u is generic(g:logic:=@\"2\"); end;");
         fault(1, "unit u is generic(g:logic:=@\"0");
         fault(1, "unit u is generic(g:logic:=@\"" + signs);
         fault(1, "unit u is generic(g:logic:=@\"");

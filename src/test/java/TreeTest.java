@@ -73,6 +73,12 @@ public final class TreeTest {
         for (int i = 0; i < once.length; i += 2) {
             expression("a " + once[i] + " b", "21:" + once[i + 1] + "(1:25 1:26)");
         }
+        for (String logic : new String[] {"nand:2", "nor:3", "xor:4", "xnor:5", "or:1"}) {
+            String word = logic.substring(0, logic.indexOf(':'));
+            String value = logic.substring(logic.indexOf(':'));
+            expression("a=b " + word + " c<d", "21" + value + "(21:6(1:25 1:26) 21:8(1:27 1:28))");
+            expression("-a " + word + " -b", "21" + value + "(20:1(1:25) 20:1(1:26))");
+        }
         String[] often = {"and", "", "or", ":1", "xor", ":4", "+", ":12", "-", ":13", "&", ":14", "*", ":15", "/", ":16",
             "mod", ":17", "rem", ":18"};
         for (int i = 0; i < often.length; i += 2) {
