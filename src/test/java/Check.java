@@ -1,5 +1,8 @@
 /** What the tests share: making texts, telling trees, counting wrong answers. */
 final class Check {
+    static final String[] FIRST_NAMES = ("integer natural positive boolean logic row true false rising falling"
+        + " number bits ps ns us event active last length left right high low").split(" ");
+
     private static int wrong = 0;
     private static int checks = 0;
 
@@ -70,8 +73,8 @@ final class Check {
             if (tree.node(i, 1) != 0) {
                 s.append(':').append(tree.node(i, 1));
             }
-            if (children > stack.size()) {
-                return "node " + i + " has more children than came: " + stack;
+            if (children < 0 || children > stack.size()) {
+                return "node " + i + " has " + children + " children of " + stack;
             }
             if (children > 0) {
                 java.util.List<String> last = stack.subList(stack.size() - children, stack.size());
@@ -81,6 +84,42 @@ final class Check {
             stack.add(s.toString());
         }
         return String.join(" + ", stack);
+    }
+
+    /** The fault and its place. */
+    static String read(SourceTree tree) {
+        return tree.read() + " at " + tree.place();
+    }
+
+    static void good(String text) {
+        same(text, read(of(text)), "0 at -1");
+    }
+
+    /** A source whose '@' marks where the fault is due; the '@' itself is left out of the text. */
+    static void fault(int due, String marked) {
+        int place = marked.indexOf('@');
+        String text = marked.substring(0, place) + marked.substring(place + 1);
+        same(text, read(of(text)), due + " at " + place);
+    }
+
+    /** What stands in a generic's expression, whose names begin with number 25. */
+    static void expression(String text, String due) {
+        same(text, told(of("unit u_0 is generic(g_0:logic:=" + text + "\n); end;")),
+            "74(70:23(48(71:24(10:4 " + due + ")) 48))");
+    }
+
+    /** A call that may throw. */
+    interface Call {
+        int answer();
+    }
+
+    /** What the call answers, or the name of what it throws. */
+    static String outcome(Call call) {
+        try {
+            return Integer.toString(call.answer());
+        } catch (RuntimeException e) {
+            return e.getClass().getSimpleName();
+        }
     }
 
     static String nameOf(SourceTree tree, int n) {

@@ -14,7 +14,7 @@ public final class LimitTest {
     }
 
     /** Declares all names up to that number, 23 to 26 being f, t, n0 and n1. */
-    private static String namesUpTo(int number) {
+    static String namesUpTo(int number) {
         StringBuilder s = new StringBuilder("body f of f is type t is(n0");
         for (int n = 26; n <= number; n++) {
             s.append(",n").append(n - 25);
@@ -220,8 +220,27 @@ public final class LimitTest {
         Check.same("nodes before 5", faultAndPlace(none + "null; loop"), "4 place " + (none.length() + 6));
         String one = RandomSource.filler(16384 - 5) + statements;
         Check.same("5 behind the last node", faultAndPlace(one + "null; loop"), "5 place " + (one.length() + 6));
+        // A fault at an earlier token comes first, whichever it is.
+        Check.same("nodes before a later 1", faultAndPlace(full + "unit a is end _"), "4 " + at);
+        Check.same("3 before later nodes", faultAndPlace(full + "unit a end is"), "3 place " + (full.length() + 7));
+        Check.same("1 before later nodes", faultAndPlace(full + "unit a _ is end"), "1 place " + (full.length() + 7));
+        // The 1000th name and the nodes are one fault at one place.
+        String crowded = namesUpTo(998);
+        int room = 16384 - nodesOf(crowded);
+        String both = crowded + RandomSource.filler(room) + "unit more is ";
+        Check.same("the 1000th name, and nodes", faultAndPlace(both + "much"), "4 place " + both.length());
+        Check.same("the 1000th name, and 3", faultAndPlace(crowded + "unit more much"), "4 place " + (crowded.length() + 10));
+        Check.same("the 1000th name, and 6", faultAndPlace(crowded + "unit more is end much"),
+            "4 place " + (crowded.length() + 17));
         String six = RandomSource.filler(16384 - 2) + "unit a is end ";
         Check.same("6 without nodes", faultAndPlace(six + "b;"), "6 place " + six.length());
+    }
+
+    /** How many nodes a source has without that of the file. */
+    private static int nodesOf(String source) {
+        SourceTree x = Check.of(source);
+        x.read();
+        return x.nodes() - 1;
     }
 
     private static String faultAndPlace(String text) {

@@ -16,6 +16,8 @@ public final class TreeTest {
         cases();
         loops();
         simpleStatements();
+        everyOptional();
+        veryMany();
         Check.end();
     }
 
@@ -242,6 +244,57 @@ public final class TreeTest {
         statement("null;", "45");
         statement("report a;", "46(1:25)");
         statement("assert a report b;", "47(1:25 1:26)");
+    }
+
+    // "[x] x or nothing": all that may be left out, there and not there, one without the other.
+    private static void everyOptional() {
+        for (int way = 0; way < 16; way++) {
+            boolean[] there = {(way & 1) != 0, (way & 2) != 0, (way & 4) != 0, (way & 8) != 0};
+            tree("unit a is " + (there[0] ? "generic(b:logic);" : "") + (there[1] ? "port(b:in logic);" : "") + "end "
+                + (there[2] ? "unit " : "") + (there[3] ? "a" : "") + ";",
+                "70:23(48" + (there[0] ? "(71:24(10:4 0))" : "") + " 48" + (there[1] ? "(72:24(2 10:4 0))" : "") + ")");
+            statement("wait " + (there[0] ? "on true " : "") + (there[1] ? "until 5 " : "") + (there[2] ? "for 7 ns" : "") + ";",
+                "44(48" + (there[0] ? "(1:6)" : "") + (there[1] ? " 2:5" : " 0") + (there[2] ? " 32:13(2:7)" : " 0") + ")");
+            concurrent((there[0] ? "low:" : "") + "process" + (there[1] ? "(true)" : "") + (there[2] ? " is" : "")
+                + " begin end process" + (there[0] && there[3] ? " low" : "") + ";",
+                "60:" + (there[0] ? "22" : "-1") + "(" + (there[1] ? "48(1:6)" : "0") + " 48 48)");
+            concurrent("low:unit high " + (there[0] ? "generic map(true=>1)" : "") + (there[1] ? "port map(true=>1)" : "") + ";",
+                "62:22(1:21 48" + (there[0] ? "(63:6(2:1))" : "") + " 48" + (there[1] ? "(63:6(2:1))" : "") + ")");
+            statement("if 1 then " + (there[0] ? "null;" : "") + (there[1] ? "elsif 2 then " + (there[3] ? "null;" : "") : "")
+                + (there[2] ? "else " + (there[3] ? "null;" : "") : "") + "end if;",
+                "34(2:1 48" + (there[0] ? "(45)" : "") + (there[1] ? " 2:2 48" + (there[3] ? "(45)" : "") : "")
+                + " 48" + (there[2] && there[3] ? "(45)" : "") + ")");
+        }
+    }
+
+    // "{x} any number of x": as many as the text and the nodes have room for.
+    private static void veryMany() {
+        int n = 1100;
+        tree("unit a is end;".repeat(n), "70:23(48 48)" + " 70:23(48 48)".repeat(n - 1));
+        tree("unit low is generic(low:low" + ";low:low".repeat(n) + ");end;", "70:22(48(" + "71:22(10:22 0) ".repeat(n)
+            + "71:22(10:22 0)) 48)");
+        tree("unit low is port(low:in low" + ";low:in low".repeat(n) + ");end;", "70:22(48 48("
+            + "72:22(2 10:22 0) ".repeat(n) + "72:22(2 10:22 0)))");
+        declaration("signal low" + ",low".repeat(3000) + ":low;", "50:22(10:22 0)" + " 50:22(10:22 0)".repeat(3000));
+        declaration("signal low:low;".repeat(n - 50), "50:22(10:22 0)" + " 50:22(10:22 0)".repeat(n - 51));
+        declaration("type low is(us" + ",us".repeat(5000) + ");", "53:22(1:14" + " 1:14".repeat(5000) + ")");
+        concurrent("low<=1;".repeat(2 * n), "61(1:22 0 48(31(2:1 0)))" + " 61(1:22 0 48(31(2:1 0)))".repeat(2 * n - 1));
+        concurrent("low<=1" + ",1".repeat(5000) + ";", "61(1:22 0 48(" + "31(2:1 0) ".repeat(5000) + "31(2:1 0)))");
+        concurrent("low<=1" + " when 1 else 1".repeat(n) + ";", "61(1:22 0 48(31(2:1 0))" + " 2:1 48(31(2:1 0))".repeat(n) + ")");
+        concurrent("us:unit us port map(us=>1" + ",us=>1".repeat(2 * n) + ");", "62:14(1:14 48 48("
+            + "63:14(2:1) ".repeat(2 * n) + "63:14(2:1)))");
+        concurrent("process(us" + ",us".repeat(5000) + ")begin end process;", "60:-1(48(" + "1:14 ".repeat(5000) + "1:14) 48 48)");
+        statement("null;".repeat(3000), "45" + " 45".repeat(2999));
+        statement("if 1 then " + "elsif 1 then ".repeat(n) + "else end if;", "34(2:1 48" + " 2:1 48".repeat(n) + " 48)");
+        statement("case 1 is " + "when 1=>".repeat(1900) + "end case;", "35(2:1" + " 36(48(2:1) 48)".repeat(1900) + ")");
+        statement("case 1 is when 1" + "|1".repeat(8000) + "=>end case;", "35(2:1 36(48(2:1" + " 2:1".repeat(8000) + ") 48))");
+        statement("wait on us" + ",us".repeat(5000) + ";", "44(48(1:14" + " 1:14".repeat(5000) + ") 0 0)");
+        statement("us<=1" + ",1".repeat(5000) + ";", "30(1:14" + " 31(2:1 0)".repeat(5001) + ")");
+        expression("us(1" + ",1".repeat(8000) + ")", "22:14(2:1" + " 2:1".repeat(8000) + ")");
+        expression("1" + "+1".repeat(8000), "21:12(".repeat(8000) + "2:1" + " 2:1)".repeat(8000));
+        expression("1" + "*1".repeat(8000), "21:15(".repeat(8000) + "2:1" + " 2:1)".repeat(8000));
+        expression("1" + " and 1".repeat(2000), "21(".repeat(2000) + "2:1" + " 2:1)".repeat(2000));
+        expression("1" + " or-1".repeat(2000), "21:1(".repeat(2000) + "2:1" + " 20:1(2:1))".repeat(2000));
     }
 
     private static void tree(String text, String due) {
