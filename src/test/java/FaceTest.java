@@ -239,14 +239,6 @@ public final class FaceTest {
         Check.same("two names", Check.told(x) + " " + x.names(), "74(73:23(1:24 48 48)) 25");
         Check.same("numbers as they come", Check.nameOf(x, 23) + " " + Check.nameOf(x, 24), "y w");
         Check.same("the others are gone", name(x, 25, 0), NO_INDEX);
-        // A name that ended here in the text before has no ' behind it now.
-        String begin = "unit u is generic(g:logic:=";
-        x.cut(0);
-        Check.put(x, " ".repeat(begin.length() - 1) + "a");
-        Check.same("a name alone", Check.read(x), "3 at " + (begin.length() - 1));
-        x.cut(0);
-        Check.put(x, begin + "'1'); end;");
-        Check.same("a sign where it ended", Check.read(x), "0 at -1");
     }
 
     private static void faultsLeaveNothingBehind() {
@@ -259,8 +251,8 @@ public final class FaceTest {
         x.cut(0);
         Check.put(x, process + "a:=" + deep.repeat(40) + "a" + ")".repeat(40) + "; end process; end;");
         Check.same("forty open after all of these", Check.read(x), "0 at -1");
-        // Five names and six operators of each, and the last name; NAME, LIST, NOTHING and LIST come
-        // before the target, and the statement and six more behind them.
+        // Five names and six operators of each, and the last name; before them NAME, LIST, NOTHING,
+        // LIST and the target, behind them the statement, LIST, the process, LIST, the body, the file.
         Check.same("all of their nodes", x.nodes(), 40 * 11 + 1 + 5 + 6);
     }
 
