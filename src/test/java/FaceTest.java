@@ -27,6 +27,7 @@ public final class FaceTest {
         nodeBounds();
         nodeOfNone();
         nameBounds();
+        exampleOfTheReadme();
         Check.end();
     }
 
@@ -367,6 +368,20 @@ public final class FaceTest {
         for (int i : new int[] {-1, due.length(), due.length() + 1, Integer.MIN_VALUE, Integer.MAX_VALUE}) {
             Check.same("name " + n + ", " + i, name(x, n, i), "-1");
         }
+    }
+
+    // README.md: what its example shows is what the class answers.
+    private static void exampleOfTheReadme() {
+        SourceTree tree = new SourceTree();
+        tree.text(0x756e6974, 0x20612069, 0x7320656e, 0x643b2020);
+        tree.cut(14);
+        Check.same("fault and place", Check.read(tree), "0 at -1");
+        StringBuilder kinds = new StringBuilder();
+        for (int i = 0; i < tree.nodes(); i++) {
+            kinds.append(tree.node(i, 0)).append(' ');
+        }
+        Check.same("the row of nodes", kinds.toString(), "48 48 70 74 ");
+        Check.same("the source's own name", tree.name(23, 0), 'a');
     }
 
     private static String text(SourceTree x, int bytes) {
